@@ -45,6 +45,18 @@ public final class BestScheduleTests {
         noneAllowed(x);
     }
 
+    /** The same along the columns: allowed from column weight 3 on, with room 6, 4, 4 and 3. */
+    private static void largestWeights() {
+        CellWindows x = new CellWindows();
+        x.setField(2, 2);
+        x.addStatement(1);
+        x.addStatement(1);
+        x.addRead(0, 1, 1, 0, 1);
+        x.addRead(1, 0, 1, 0, 0);
+        x.setOffset(1, 2);
+        best(x, 3, 3, 3);
+    }
+
     /** The second statement reads the first, which reads the second one's row above. */
     private static CellWindows twoInTurn() {
         CellWindows x = new CellWindows();
@@ -81,6 +93,7 @@ public final class BestScheduleTests {
         withoutStatementsOrReads();
         columnByColumn();
         promises41To43();
+        largestWeights();
         neverAllowed();
         onlyAllowedOnes();
         Check.finish();

@@ -40,10 +40,18 @@ final class Check {
         try {
             return String.valueOf(methodOf(target, call).invoke(target, arguments));
         } catch (InvocationTargetException e) {
-            return "throws." + e.getCause().getClass().getSimpleName();
+            return thrown(target, e.getCause());
         } catch (IllegalAccessException e) {
             throw new IllegalStateException(e);
         }
+    }
+
+    /** What the machine or the library throws by itself inside the program is never due. */
+    private static String thrown(Object target, Throwable exception) {
+        String name = exception.getClass().getSimpleName();
+        StackTraceElement[] frames = exception.getStackTrace();
+        boolean own = frames.length > 0 && frames[0].getClassName().startsWith(target.getClass().getName());
+        return own ? "throws." + name : "throws by itself: " + name;
     }
 
     private static Method methodOf(Object target, String name) {

@@ -36,6 +36,12 @@ public final class LivesTests {
         Check.due(x, "endOf", 5, 0, 0, 1);
         Check.due(x, "endOf", 0, 0, 0, 0);
         Check.due(x, "endOf", 5, 1, 0, 0);
+        // the very first cell reads, too
+        x.dropReads(1);
+        x.addRead(0, 1, 1, 0, -1);
+        x.setOffset(0, 9);
+        Check.due(x, "endOf", 5, 1, 0, 1);
+        Check.due(x, "endOf", 0, 1, 0, 0);
         Check.throwsAndChangesNothing(x, "IndexOutOfBoundsException",
             Check.call("endOf", 2, 0, 0), Check.call("endOf", -1, 0, 0), Check.call("endOf", 0, 1, 0),
             Check.call("endOf", 0, -1, 0), Check.call("endOf", 0, 0, 5), Check.call("endOf", 0, 0, -1));
@@ -76,8 +82,28 @@ public final class LivesTests {
         Check.due(x, "mostLiveOf", 0, 0);
         x.setLasting(1, false);
         Check.due(x, "mostLive", 0);
+        x.setField(1, 2);
+        x.setLasting(0, true);
+        x.setOffset(0, 0);
+        Check.due(x, "mostLive", 2);
+        x.setOffset(0, 30);
+        Check.due(x, "mostLive", 1);
+        Check.due(x, "mostLiveOf", 1, 0);
         Check.throwsAndChangesNothing(x, "IndexOutOfBoundsException",
             Check.call("mostLiveOf", -1), Check.call("mostLiveOf", 2));
+    }
+
+    private static void mostThereCanBe() {
+        CellWindows x = new CellWindows();
+        x.setField(8, 8);
+        for (int statement = 0; statement < 4; statement++) {
+            x.addStatement(1);
+            x.setLasting(statement, true);
+        }
+        Check.due(x, "mostLive", 255);
+        Check.due(x, "mostLiveOf", 63, 3);
+        Check.due(x, "mostLiveOf", 64, 0);
+        Check.due(x, "liveAt", 255, 255);
     }
 
     private static void promise20ConflictsOf() {
@@ -97,11 +123,19 @@ public final class LivesTests {
         Check.due(x, "conflictsOf", 2, 1, 0, 1, 0);
         Check.due(x, "conflictsOf", 0, 1, 0, 4, 0);
         Check.due(x, "conflictsOf", 0, 1, 0, 0, 1);
+        x.addStatement(1);
+        x.setLasting(2, true);
+        // steps 0 3 6 .. now, and the third statement's cells are in everyone's way from then on
+        Check.due(x, "conflictsOf", 2, 0, 0, 0, 1);
+        Check.due(x, "conflictsOf", 1, 0, 0, 0, 0);
+        Check.due(x, "conflictsOf", 2, 0, 0, 0, 2);
+        Check.due(x, "conflictsOf", 4, 1, 0, 4, 2);
+        Check.due(x, "conflictsOf", 4, 2, 0, 4, 2);
         Check.throwsAndChangesNothing(x, "IndexOutOfBoundsException",
-            Check.call("conflictsOf", 2, 0, 0, 0), Check.call("conflictsOf", -1, 0, 0, 0),
+            Check.call("conflictsOf", 3, 0, 0, 0), Check.call("conflictsOf", -1, 0, 0, 0),
             Check.call("conflictsOf", 0, 1, 0, 0), Check.call("conflictsOf", 0, 0, 5, 0),
             Check.call("conflictsOf", 0, -1, 0, 0), Check.call("conflictsOf", 0, 0, -1, 0),
-            Check.call("conflictsOf", 0, 0, 0, 2), Check.call("conflictsOf", 0, 0, 0, -1));
+            Check.call("conflictsOf", 0, 0, 0, 3), Check.call("conflictsOf", 0, 0, 0, -1));
     }
 
     private static void promise21ConflictPairs() {
@@ -110,6 +144,12 @@ public final class LivesTests {
         x.addStatement(1);
         Check.due(x, "conflictPairs", 0, 1);
         x.setLasting(1, true);
+        x.setOffset(1, 9);
+        Check.due(x, "conflictPairs", 3, 0);
+        x.setOffset(1, 0);
+        x.setOffset(0, 9);
+        // the second statement's cells live on while those of the first are born, which does not count here
+        Check.due(x, "conflictPairs", 3, 0);
         Check.due(x, "conflictPairs", 10, 1);
         x.setField(8, 8);
         Check.due(x, "conflictPairs", 2016, 1);
@@ -123,6 +163,7 @@ public final class LivesTests {
         promise16EndOf();
         promise17LiveAt();
         promise18And19MostLive();
+        mostThereCanBe();
         promise20ConflictsOf();
         promise21ConflictPairs();
         Check.finish();

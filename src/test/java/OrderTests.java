@@ -69,6 +69,7 @@ public final class OrderTests {
         x.addRead(0, 1, 1, 0, -3);
         x.addRead(0, 1, 1, 0, 3);
         x.addRead(0, 1, 1, 2, 0);
+        x.setOffset(1, 30);
         Check.due(x, "isAllowed", true);
         x.setField(2, 4);
         Check.due(x, "isAllowed", false);
@@ -106,9 +107,11 @@ public final class OrderTests {
         Check.due(x, "isReadInOrder", true, 1, 1);
         x.setField(2, 1);
         Check.due(x, "isReadInOrder", true, 1, 2);
+        x.addRead(0, 0, 1, 0, 0);
+        Check.due(x, "isReadInOrder", false, 0, 0);
         Check.throwsAndChangesNothing(x, "IndexOutOfBoundsException",
             Check.call("isReadInOrder", 1, 4), Check.call("isReadInOrder", 1, -1),
-            Check.call("isReadInOrder", 0, 0), Check.call("isReadInOrder", 2, 0),
+            Check.call("isReadInOrder", 0, 1), Check.call("isReadInOrder", 2, 0),
             Check.call("isReadInOrder", -1, 0));
     }
 
@@ -143,6 +146,23 @@ public final class OrderTests {
         // the second statement begins at time 30, after the last time of the first one, 27
         steps(x, 1, new int[] {6, 7, 9, 8, 10, 11});
         pointsAsked(x, "stepOf");
+        largestTimes();
+    }
+
+    private static void largestTimes() {
+        CellWindows x = new CellWindows();
+        x.setField(8, 8);
+        for (int statement = 0; statement < 4; statement++) {
+            x.addStatement(statement);
+            x.setOffset(statement, 30);
+        }
+        x.setSchedule(9, 9);
+        Check.due(x, "stepOf", 252, 0, 7, 7);
+        Check.due(x, "stepOf", 255, 3, 7, 7);
+        // the time before holds two cells of each statement
+        Check.due(x, "stepOf", 251, 3, 7, 6);
+        Check.due(x, "stepOf", 250, 3, 6, 7);
+        Check.due(x, "stepOf", 244, 0, 6, 7);
     }
 
     private static void steps(CellWindows x, int statement, int[] want) {
@@ -166,6 +186,10 @@ public final class OrderTests {
             Check.due(x, "statementAt", statements[step], step);
             Check.due(x, "pointAt", points[step], step);
         }
+        x.setSchedule(0, 1);
+        Check.due(x, "pointAt", 3, 1);
+        x.setOffset(0, 30);
+        Check.due(x, "statementAt", 1, 0);
         Check.throwsAndChangesNothing(x, "IndexOutOfBoundsException",
             Check.call("statementAt", -1), Check.call("statementAt", 12), Check.call("pointAt", -1),
             Check.call("pointAt", 12), Check.call("pointAt", Integer.MAX_VALUE));

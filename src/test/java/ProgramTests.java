@@ -18,6 +18,13 @@ public final class ProgramTests {
         Check.due(x, "placeOf", 4, 0, 1, 0);
         Check.due(x, "stepOf", "throws.IndexOutOfBoundsException", 0, 4, 0);
         Check.due(x, "stepOf", "throws.IndexOutOfBoundsException", 0, 0, 4);
+        // row weight 1, column weight 0: the first statement's upper row comes with the second one's third row
+        x.addStatement(0);
+        x.setOffset(0, 2);
+        Check.due(x, "stepOf", 4, 1, 1, 0);
+        Check.due(x, "stepOf", 8, 0, 0, 0);
+        Check.due(x, "stepOf", 12, 1, 2, 0);
+        Check.due(x, "stepOf", 15, 1, 2, 3);
     }
 
     private static void promise2AddStatement() {

@@ -108,6 +108,20 @@ public final class WindowTests {
         Check.due(x, "placeOf", 0, 0, 3, 1);
         Check.due(x, "placeOf", 2, 0, 2, 3);
         Check.due(x, "placeOf", 1, 0, 7, 7);
+        contractToOneByTwo();
+    }
+
+    /** Along the diagonals: two columns take turns in 2 places, where rest and slant windows need 3. */
+    private static void contractToOneByTwo() {
+        CellWindows x = new CellWindows();
+        x.setField(2, 3);
+        x.addStatement(1);
+        x.addRead(0, 0, 1, 1, 0);
+        x.setSchedule(1, 1);
+        Check.due(x, "contract", 2);
+        places(x, 0, 0, 1, 0, 0, 1, 0);
+        Check.due(x, "isRight", true, 0);
+        Check.due(x, "firstWrongStep", -1);
     }
 
     private static void contractToRestFirst() {
