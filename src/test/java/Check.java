@@ -1,12 +1,36 @@
 import java.lang.reflect.InvocationTargetException;
 import java.lang.reflect.Method;
+import java.util.Arrays;
+import java.util.IdentityHashMap;
+import java.util.Map;
+import java.util.function.Supplier;
 
 /** What the tests share: calling by name, comparing, counting what is wrong. */
 final class Check {
+    /** The document promises 512 calls of one object; some are left for those that a test makes by itself. */
+    private static final int MOST_CALLS = 500;
+
+    private static final Map<Object, Integer> CALLS = new IdentityHashMap<>();
+    private static String about = "";
     private static int wrong = 0;
     private static int checks = 0;
 
     private Check() {
+    }
+
+    /** Runs the test of one sentence of the document; what it finds wrong is told with the promises and the words. */
+    static void sentence(String promises, String words, Runnable test) {
+        about = "promise " + promises + ", \"" + words + "\": ";
+        int before = checks;
+        try {
+            test.run();
+        } catch (RuntimeException e) {
+            same("the test", "threw " + e, "an end");
+        }
+        if (checks == before) {
+            same("the number of checks", "0", "1 at least");
+        }
+        about = "";
     }
 
     /** Compares a call's answer with the one that is due: a number, true, false, or throws.NameOfTheException. */
@@ -18,7 +42,7 @@ final class Check {
         checks++;
         if (!got.equals(want)) {
             wrong++;
-            System.out.println(what + " answered " + got + ", due is " + want);
+            System.out.println(about + what + " answered " + got + ", due is " + want);
         }
     }
 
@@ -26,10 +50,29 @@ final class Check {
     static void throwsAndChangesNothing(CellWindows x, String exception, Object[]... calls) {
         String before = allAnswers(x);
         for (Object[] call : calls) {
-            Object[] arguments = java.util.Arrays.copyOfRange(call, 1, call.length);
-            due(x, (String) call[0], "throws." + exception, arguments);
+            due(x, (String) call[0], "throws." + exception, arguments(call));
         }
         same("all answers after calls that throw " + exception, allAnswers(x), before);
+    }
+
+    /** Each call, on an object of its own, throws what is due, and leaves it like one that was never so called. */
+    static void refused(Supplier<CellWindows> made, String exception, Object[]... calls) {
+        String untouched = allAnswers(made.get());
+        for (Object[] call : calls) {
+            CellWindows x = made.get();
+            due(x, (String) call[0], "throws." + exception, arguments(call));
+            same("all answers after " + call[0] + shown(arguments(call)), allAnswers(x), untouched);
+        }
+    }
+
+    /** The call answers, whatever that may be. */
+    static void taken(CellWindows x, Object... call) {
+        String answer = answer(x, (String) call[0], arguments(call));
+        same(call[0] + shown(arguments(call)), answer.startsWith("throws") ? answer : "an answer", "an answer");
+    }
+
+    static Object[] arguments(Object... call) {
+        return Arrays.copyOfRange(call, 1, call.length);
     }
 
     static Object[] call(Object... nameAndArguments) {
@@ -37,6 +80,9 @@ final class Check {
     }
 
     static String answer(Object target, String call, Object... arguments) {
+        if (target instanceof CellWindows && CALLS.merge(target, 1, Integer::sum) == MOST_CALLS + 1) {
+            same("calls of one object", "more", "at most " + MOST_CALLS);
+        }
         try {
             return String.valueOf(methodOf(target, call).invoke(target, arguments));
         } catch (InvocationTargetException e) {
@@ -64,7 +110,7 @@ final class Check {
     }
 
     static String shown(Object... arguments) {
-        String text = java.util.Arrays.toString(arguments);
+        String text = Arrays.toString(arguments);
         return "(" + text.substring(1, text.length() - 1) + ")";
     }
 
@@ -96,23 +142,26 @@ final class Check {
         for (int read = 0; read <= 4; read++) {
             note(all, x, "isReadInOrder", statement, read);
         }
-        for (int row = 0; x.steps() > 0 && !answer(x, "stepOf", statement, row, 0).startsWith("throws"); row++) {
-            for (int column = 0; noted(all, x, "stepOf", statement, row, column); column++) {
+        for (int row = 0; noted(all, x, "stepOf", statement, row, 0); row++) {
+            int column = 0;
+            do {
                 note(all, x, "endOf", statement, row, column);
                 note(all, x, "placeOf", statement, row, column);
                 note(all, x, "valueOf", statement, row, column);
                 note(all, x, "contractedValueOf", statement, row, column);
-            }
+                column++;
+            } while (noted(all, x, "stepOf", statement, row, column));
         }
     }
 
     private static void note(StringBuilder all, CellWindows x, String name, Object... arguments) {
-        all.append(name).append(shown(arguments)).append('=').append(answer(x, name, arguments)).append('\n');
+        noted(all, x, name, arguments);
     }
 
     private static boolean noted(StringBuilder all, CellWindows x, String name, Object... arguments) {
-        note(all, x, name, arguments);
-        return !answer(x, name, arguments).startsWith("throws");
+        String answered = answer(x, name, arguments);
+        all.append(name).append(shown(arguments)).append('=').append(answered).append('\n');
+        return !answered.startsWith("throws");
     }
 
     static void finish() {

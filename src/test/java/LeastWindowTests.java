@@ -94,10 +94,8 @@ public final class LeastWindowTests {
     }
 
     private static void wrongStatements() {
-        CellWindows x = field(1, 2);
-        x.addStatement(1);
         for (String call : ALL) {
-            Check.throwsAndChangesNothing(x, "IndexOutOfBoundsException", Check.call(call, -1), Check.call(call, 2));
+            Check.refused(() -> reading(2, 2, 1, 1), "IndexOutOfBoundsException", Check.call(call, -1), Check.call(call, 1));
         }
     }
 

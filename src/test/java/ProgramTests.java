@@ -47,8 +47,7 @@ public final class ProgramTests {
         Check.due(x, "stepOf", 6, 3, 0, 0);
         Check.throwsAndChangesNothing(x, "IllegalStateException",
             Check.call("addStatement", 0), Check.call("addStatement", 99));
-        Check.throwsAndChangesNothing(x, "IllegalArgumentException",
-            Check.call("addStatement", 100), Check.call("addStatement", -1));
+        Check.due(x, "addStatement", "throws.IllegalArgumentException", 100);
     }
 
     private static void promise3AddRead() {

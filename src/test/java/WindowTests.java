@@ -39,7 +39,7 @@ public final class WindowTests {
         places(x, 0, 0, 0, 0, 0, 0, 0);
         Check.throwsAndChangesNothing(x, "IllegalArgumentException",
             Check.call("keepRest", 0, 0), Check.call("keepRest", 0, 100), Check.call("keepRest", 1, -1));
-        Check.throwsAndChangesNothing(x, "IndexOutOfBoundsException",
+        Check.refused(WindowTests::small, "IndexOutOfBoundsException",
             Check.call("keepRest", -1, 1), Check.call("keepRest", 2, 1), Check.call("keepRest", 2, 0));
     }
 
@@ -55,7 +55,7 @@ public final class WindowTests {
         Check.throwsAndChangesNothing(x, "IllegalArgumentException",
             Check.call("keepTwoRests", 0, 0, 1), Check.call("keepTwoRests", 0, 100, 1),
             Check.call("keepTwoRests", 0, 1, 0), Check.call("keepTwoRests", 0, 1, 100));
-        Check.throwsAndChangesNothing(x, "IndexOutOfBoundsException",
+        Check.refused(WindowTests::small, "IndexOutOfBoundsException",
             Check.call("keepTwoRests", -1, 1, 1), Check.call("keepTwoRests", 2, 1, 1),
             Check.call("keepTwoRests", 2, 0, 0));
     }
@@ -72,7 +72,7 @@ public final class WindowTests {
         Check.throwsAndChangesNothing(x, "IllegalArgumentException",
             Check.call("keepSlant", 0, -1, 1), Check.call("keepSlant", 0, 10, 1),
             Check.call("keepSlant", 0, 0, 0), Check.call("keepSlant", 0, 0, 100));
-        Check.throwsAndChangesNothing(x, "IndexOutOfBoundsException",
+        Check.refused(WindowTests::small, "IndexOutOfBoundsException",
             Check.call("keepSlant", -1, 0, 1), Check.call("keepSlant", 2, 0, 1), Check.call("keepSlant", 2, 10, 0));
     }
 

@@ -1,0 +1,234 @@
+/** Wrap-arounds: values modulo 9973, border values modulo 100, places modulo the moduli of the windows. */
+public final class EdgeWrapTests {
+    /** The third statement's value is its addend, 9 and 9 and 2 times 990, and 99: 19899 more than the addend. */
+    private static CellWindows twice(int addend) {
+        CellWindows x = Made.field(1, 1, 99, 99, addend, 0);
+        x.addRead(1, 0, 9, 0, 0);
+        x.addRead(2, 1, 9, 0, 0);
+        x.addRead(2, 1, 9, 0, 0);
+        x.addRead(2, 1, 2, 0, 0);
+        x.addRead(2, 0, 1, 0, 0);
+        x.addRead(3, 2, 3, 0, 0);
+        return x;
+    }
+
+    /** The third statement's value is its addend, and 9 and 1 times 990: 9900 more than the addend. */
+    private static CellWindows once(int addend) {
+        CellWindows x = Made.field(1, 1, 99, 99, addend, 0);
+        x.addRead(1, 0, 9, 0, 0);
+        x.addRead(2, 1, 9, 0, 0);
+        x.addRead(2, 1, 1, 0, 0);
+        x.addRead(3, 2, 3, 0, 0);
+        return x;
+    }
+
+    private static void sumModulo9973(String call) {
+        Check.due(once(0), call, 9900, 2, 0, 0);
+        Check.due(once(72), call, 9972, 2, 0, 0);
+        Check.due(once(73), call, 0, 2, 0, 0);
+        Check.due(once(74), call, 1, 2, 0, 0);
+        Check.due(twice(46), call, 9972, 2, 0, 0);
+        Check.due(twice(47), call, 0, 2, 0, 0);
+        Check.due(twice(48), call, 1, 2, 0, 0);
+        // what is read is the rest: three times 9972 is 2 * 9973 and 9970
+        Check.due(once(72), call, 9970, 3, 0, 0);
+        Check.due(once(73), call, 0, 3, 0, 0);
+        Check.due(twice(48), call, 3, 3, 0, 0);
+    }
+
+    private static void promise38SumModulo() {
+        sumModulo9973("valueOf");
+        Check.due(once(73), "firstWrongStep", -1);
+    }
+
+    private static void promise39SumModulo() {
+        sumModulo9973("contractedValueOf");
+    }
+
+    /** Compares the border value that a statement's cell takes from a source. */
+    private static void border(String call, int want, int source, int row, int column, int rowsBack, int columnsBack) {
+        CellWindows x = Made.field(8, 8, 0, 0, 0, 0);
+        x.addRead(3, source, 1, rowsBack, columnsBack);
+        Check.due(x, call, want, 3, row, column);
+    }
+
+    private static void borderModulo100(String call) {
+        // 5 * 7 + 7 * 9 + 0, 1, 2, 3: 98, 99, 100, 101
+        border(call, 98, 0, 7, 7, 0, -2);
+        border(call, 99, 1, 7, 7, 0, -2);
+        border(call, 0, 2, 7, 7, 0, -2);
+        border(call, 1, 3, 7, 7, 0, -2);
+        // the greatest one: 5 * 7 + 7 * 10 + 3
+        border(call, 8, 3, 7, 7, 0, -3);
+    }
+
+    private static void borderNeverNegative(String call) {
+        // 5 * 4 - 7 * 3 + 0, 1, 2: -1, 0, 1
+        border(call, 99, 0, 4, 0, 0, 3);
+        border(call, 0, 1, 4, 0, 0, 3);
+        border(call, 1, 2, 4, 0, 0, 3);
+        // the row alone is negative, then the column alone, then both: -5, -7, and the least one, -15 - 21
+        border(call, 95, 0, 0, 0, 1, 0);
+        border(call, 93, 0, 0, 0, 0, 1);
+        border(call, 64, 0, 0, 0, 3, 3);
+        border(call, 67, 3, 0, 0, 3, 3);
+        // a negative row and a column on the right: -15 + 70 + 3
+        border(call, 58, 3, 0, 7, 3, -3);
+        // a negative row that the column makes good: -15 + 14 + 1
+        border(call, 0, 1, 0, 2, 3, 0);
+    }
+
+    private static void promise38BorderModulo() {
+        borderModulo100("valueOf");
+    }
+
+    private static void promise39BorderModulo() {
+        borderModulo100("contractedValueOf");
+    }
+
+    private static void promise38BorderNeverNegative() {
+        borderNeverNegative("valueOf");
+    }
+
+    private static void promise39BorderNeverNegative() {
+        borderNeverNegative("contractedValueOf");
+    }
+
+    /** The point beside the last column is outside, not the next row's first one; a smaller field has a nearer border. */
+    private static void outsideTheField() {
+        CellWindows x = Made.field(2, 2, 50, 0);
+        x.addRead(1, 0, 1, 0, -1);
+        Check.due(x, "valueOf", 50, 1, 0, 0);
+        Check.due(x, "valueOf", 14, 1, 0, 1);
+        Check.due(x, "valueOf", 19, 1, 1, 1);
+        x.dropReads(1);
+        x.addRead(1, 0, 1, 0, 1);
+        Check.due(x, "valueOf", 98, 1, 1, 0);
+        x.setField(2, 1);
+        x.dropReads(1);
+        x.addRead(1, 0, 1, 0, -1);
+        Check.due(x, "valueOf", 7, 1, 0, 0);
+        Check.due(x, "valueOf", 12, 1, 1, 0);
+    }
+
+    private static void places(CellWindows x, int columns, int... want) {
+        for (int line = 0; line < want.length; line++) {
+            Check.due(x, "placeOf", want[line], 0, line / columns, line % columns);
+        }
+    }
+
+    private static void promise23Rest() {
+        CellWindows x = Made.field(3, 4, 1);
+        Check.due(x, "keepRest", 1, 0, 1);
+        places(x, 4, 0, 0, 0, 0, 0, 0, 0, 0, 0, 0, 0, 0);
+        Check.due(x, "keepRest", 5, 0, 5);
+        places(x, 4, 0, 1, 2, 3, 4, 0, 1, 2, 3, 4, 0, 1);
+        Check.due(x, "keepRest", 11, 0, 11);
+        places(x, 4, 0, 1, 2, 3, 4, 5, 6, 7, 8, 9, 10, 0);
+        for (int modulus : new int[] {12, 13, 99}) {
+            Check.due(x, "keepRest", modulus, 0, modulus);
+            places(x, 4, 0, 1, 2, 3, 4, 5, 6, 7, 8, 9, 10, 11);
+        }
+    }
+
+    private static void promise24TwoRests() {
+        CellWindows x = Made.field(3, 4, 1);
+        Check.due(x, "keepTwoRests", 6, 0, 2, 3);
+        places(x, 4, 0, 1, 2, 0, 3, 4, 5, 3, 0, 1, 2, 0);
+        // as large as the field
+        Check.due(x, "keepTwoRests", 12, 0, 3, 4);
+        places(x, 4, 0, 1, 2, 3, 4, 5, 6, 7, 8, 9, 10, 11);
+        // larger than the field, on one side and on both
+        Check.due(x, "keepTwoRests", 10, 0, 2, 5);
+        places(x, 4, 0, 1, 2, 3, 5, 6, 7, 8, 0, 1, 2, 3);
+        Check.due(x, "keepTwoRests", 12, 0, 4, 3);
+        places(x, 4, 0, 1, 2, 0, 3, 4, 5, 3, 6, 7, 8, 6);
+        Check.due(x, "keepTwoRests", 9801, 0, 99, 99);
+        places(x, 4, 0, 1, 2, 3, 99, 100, 101, 102, 198, 199, 200, 201);
+    }
+
+    private static void promise25Slant() {
+        CellWindows x = Made.field(3, 4, 1);
+        Check.due(x, "keepSlant", 2, 0, 0, 2);
+        places(x, 4, 0, 0, 0, 0, 1, 1, 1, 1, 0, 0, 0, 0);
+        Check.due(x, "keepSlant", 5, 0, 2, 5);
+        places(x, 4, 0, 2, 4, 1, 1, 3, 0, 2, 2, 4, 1, 3);
+        // a slant as large as the modulus, and a larger one
+        Check.due(x, "keepSlant", 3, 0, 3, 3);
+        places(x, 4, 0, 0, 0, 0, 1, 1, 1, 1, 2, 2, 2, 2);
+        Check.due(x, "keepSlant", 4, 0, 9, 4);
+        places(x, 4, 0, 1, 2, 3, 1, 2, 3, 0, 2, 3, 0, 1);
+        // a modulus that the largest place just reaches, and one that it does not
+        Check.due(x, "keepSlant", 29, 0, 9, 29);
+        places(x, 4, 0, 9, 18, 27, 1, 10, 19, 28, 2, 11, 20, 0);
+        Check.due(x, "keepSlant", 30, 0, 9, 30);
+        places(x, 4, 0, 9, 18, 27, 1, 10, 19, 28, 2, 11, 20, 29);
+    }
+
+    /** Windows of a modulus stay when the field changes; only the place in line does not. */
+    private static void promise6WindowsStay() {
+        CellWindows x = Made.field(3, 4, 1);
+        x.keepRest(0, 5);
+        x.setField(2, 3);
+        Check.due(x, "windowSize", 5, 0);
+        places(x, 3, 0, 1, 2, 3, 4, 0);
+        x.keepTwoRests(0, 2, 2);
+        x.setField(3, 3);
+        Check.due(x, "windowSize", 4, 0);
+        places(x, 3, 0, 1, 0, 2, 3, 2, 0, 1, 0);
+        x.keepSlant(0, 2, 3);
+        x.setField(2, 4);
+        Check.due(x, "windowSize", 3, 0);
+        places(x, 4, 0, 2, 1, 0, 1, 0, 2, 1);
+    }
+
+    private static void promise6WholeGrows() {
+        CellWindows x = Made.field(1, 1, 1);
+        x.keepRest(0, 7);
+        Check.due(x, "keepWhole", 1, 0);
+        x.setField(8, 8);
+        Check.due(x, "windowSize", 64, 0);
+        Check.due(x, "room", 64);
+        Check.due(x, "placeOf", 63, 0, 7, 7);
+        x.setField(2, 3);
+        Check.due(x, "windowSize", 6, 0);
+        places(x, 3, 0, 1, 2, 3, 4, 5);
+    }
+
+    /** Cells live for two steps, so in turns of three places the third one is the first that may be taken again. */
+    private static void promise39Turns() {
+        CellWindows x = Made.field(1, 8, 1);
+        x.addRead(0, 0, 1, 0, 3);
+        // 80 87 94 81 88 95 82 89 without windows
+        for (int modulus : new int[] {3, 4, 8, 9, 99}) {
+            x.keepRest(0, modulus);
+            Check.due(x, "contractedValueOf", 89, 0, 0, 7);
+            Check.due(x, "firstWrongStep", -1);
+        }
+        x.keepRest(0, 2);
+        // in two places the fourth cell finds the third, 80 87 94 95, and so on to 95 + 4
+        Check.due(x, "contractedValueOf", 95, 0, 0, 3);
+        Check.due(x, "contractedValueOf", 99, 0, 0, 7);
+        Check.due(x, "firstWrongStep", 3);
+        x.keepRest(0, 1);
+        Check.due(x, "contractedValueOf", 99, 0, 0, 7);
+    }
+
+    public static void main(String[] arguments) {
+        Check.sentence("38", "the sum modulo 9973", EdgeWrapTests::promise38SumModulo);
+        Check.sentence("39", "the sum modulo 9973", EdgeWrapTests::promise39SumModulo);
+        Check.sentence("38", "modulo 100", EdgeWrapTests::promise38BorderModulo);
+        Check.sentence("39", "modulo 100", EdgeWrapTests::promise39BorderModulo);
+        Check.sentence("38", "never negative", EdgeWrapTests::promise38BorderNeverNegative);
+        Check.sentence("39", "never negative", EdgeWrapTests::promise39BorderNeverNegative);
+        Check.sentence("38", "Where this point lies outside the field", EdgeWrapTests::outsideTheField);
+        Check.sentence("23, 29", "at its place in line modulo that modulus", EdgeWrapTests::promise23Rest);
+        Check.sentence("24, 29", "(i modulo the first) times the second, plus j modulo the second",
+            EdgeWrapTests::promise24TwoRests);
+        Check.sentence("25, 29", "(i plus j times the slant) modulo the modulus", EdgeWrapTests::promise25Slant);
+        Check.sentence("6, 27, 29", "statements, reads and windows stay", EdgeWrapTests::promise6WindowsStay);
+        Check.sentence("6, 22, 27", "a whole window is as large as the field then", EdgeWrapTests::promise6WholeGrows);
+        Check.sentence("39, 40", "overwrites what lies at the place of its own", EdgeWrapTests::promise39Turns);
+        Check.finish();
+    }
+}
