@@ -127,7 +127,7 @@ final class Check {
             note(all, x, "pointAt", step);
         }
         int statements = 0;
-        while (!answer(x, "windowSize", statements).startsWith("throws")) {
+        while (statements < 5 && !answer(x, "windowSize", statements).startsWith("throws")) {
             statementAnswers(all, x, statements);
             statements++;
         }
@@ -142,7 +142,8 @@ final class Check {
         for (int read = 0; read <= 4; read++) {
             note(all, x, "isReadInOrder", statement, read);
         }
-        for (int row = 0; noted(all, x, "stepOf", statement, row, 0); row++) {
+        // a program that finds points everywhere must not be asked for ever
+        for (int row = 0; row < 9 && noted(all, x, "stepOf", statement, row, 0); row++) {
             int column = 0;
             do {
                 note(all, x, "endOf", statement, row, column);
@@ -150,7 +151,7 @@ final class Check {
                 note(all, x, "valueOf", statement, row, column);
                 note(all, x, "contractedValueOf", statement, row, column);
                 column++;
-            } while (noted(all, x, "stepOf", statement, row, column));
+            } while (column < 9 && noted(all, x, "stepOf", statement, row, column));
         }
     }
 

@@ -26,12 +26,16 @@ public final class EdgeEmptyTests {
 
     /** The same of the second one of two statements of addends 5 and 6, without reads, on 2 rows of 2 points. */
     private static final Object[][] WITHOUT_READS = {
-        {"4", 0, "dropReads", 1}, {"9", true, "isAllowed"}, {"10", true, "isAllowedWith", 0, 9},
+        {"2", 2, "addStatement", 0}, {"4", 0, "dropReads", 1}, {"5", false, "setLasting", 1, true},
+        {"6", 1, "setField", 1, 1}, {"9", true, "isAllowed"}, {"10", true, "isAllowedWith", 0, 9},
         {"7", true, "setSchedule", 0, 9}, {"8", true, "setOffset", 0, 30},
-        {"11", NO_INDEX, "isReadInOrder", 1, 0}, {"12", 8, "steps"}, {"16", 6, "endOf", 1, 1, 0},
+        {"11", NO_INDEX, "isReadInOrder", 1, 0}, {"12", 8, "steps"}, {"13", 6, "stepOf", 1, 1, 0},
+        {"14", 1, "statementAt", 6}, {"15", 2, "pointAt", 6}, {"16", 6, "endOf", 1, 1, 0},
         {"17", 0, "liveAt", 7}, {"17", 0, "liveAt", 1}, {"18", 0, "mostLive"}, {"19", 0, "mostLiveOf", 1},
         {"20", 0, "conflictsOf", 1, 0, 0, 1}, {"20", 0, "conflictsOf", 1, 0, 0, 0}, {"21", 0, "conflictPairs", 1},
-        {"26", 2, "contract"}, {"28", 8, "room"}, {"30", true, "isRight", 1}, {"31", 1, "leastRest", 1},
+        {"22", 4, "keepWhole", 1}, {"23", 3, "keepRest", 1, 3}, {"24", 6, "keepTwoRests", 1, 2, 3},
+        {"25", 3, "keepSlant", 1, 2, 3}, {"26", 2, "contract"}, {"27", 4, "windowSize", 1}, {"28", 8, "room"},
+        {"29", 3, "placeOf", 1, 1, 1}, {"30", true, "isRight", 1}, {"31", 1, "leastRest", 1},
         {"32", 1, "leastRestByDifferences", 1}, {"33", 1, "leastRowRest", 1}, {"34", 1, "leastColumnRest", 1},
         {"35", 1, "leastSlantModulus", 1}, {"36", 0, "leastSlant", 1}, {"37", 1, "leastJointRest", 1, 0},
         {"37", 1, "leastJointRest", 1, 1}, {"38", 6, "valueOf", 1, 0, 0}, {"39", 6, "contractedValueOf", 1, 1, 1},
@@ -111,6 +115,8 @@ public final class EdgeEmptyTests {
         Check.due(x, "valueOf", 5, 0, 0, 1);
         // 7 times column 3 at the border
         Check.due(x, "valueOf", 5 + 9 * 21, 0, 0, 2);
+        // what an earlier call computed is not written yet, either
+        Check.due(x, "valueOf", 5, 0, 0, 1);
         CellWindows lower = Made.field(1, 1, 5, 6);
         lower.addRead(0, 1, 9, 0, 0);
         Check.due(lower, "valueOf", 5, 0, 0, 0);
@@ -214,7 +220,8 @@ public final class EdgeEmptyTests {
         Check.sentence("7, 8, 13", "at first the row weight is 1, the column weight 0, and offsets are 0",
             EdgeEmptyTests::promise13ScheduleAtFirst);
         Check.sentence("2", "Adds a statement that reads nothing", EdgeEmptyTests::promise2ReadsNothing);
-        Check.sentence("2, 22", "A new statement has the whole window", EdgeEmptyTests::promise22NewStatementKeepsWhole);
+        Check.sentence("2, 22", "A new statement has the whole window",
+            EdgeEmptyTests::promise22NewStatementKeepsWhole);
         Check.sentence("38", "reading a cell that is not yet written gives 0", EdgeEmptyTests::promise38NotYetWritten);
         Check.sentence("38, 39", "Each step reads what it needs, then writes its cell",
             EdgeEmptyTests::promise38ReadsThenWrites);

@@ -9,7 +9,8 @@ public final class EdgeFullTests {
         Check.due(x, "addStatement", "throws.IllegalStateException", 0);
         Check.due(x, "steps", 8);
         Check.due(x, "valueOf", 4, 3, 0, 1);
-        Check.refused(Made::full, "IllegalStateException", Check.call("addStatement", 0), Check.call("addStatement", 99));
+        Check.refused(Made::full, "IllegalStateException",
+            Check.call("addStatement", 0), Check.call("addStatement", 99));
     }
 
     /** Nothing takes a statement away, so it stays full. */
@@ -75,6 +76,16 @@ public final class EdgeFullTests {
         Check.due(x, "isReadInOrder", true, 3, 1);
         Check.due(x, "isReadInOrder", false, 3, 2);
         x.setOffset(2, 0);
+        // the last read alone is out of order, and so the schedule is not allowed
+        Check.due(x, "isAllowed", true);
+        x.dropReads(3);
+        for (int columnsBack = 3; columnsBack >= 0; columnsBack--) {
+            x.addRead(3, 3, 1, 0, columnsBack);
+        }
+        Check.due(x, "isReadInOrder", true, 3, 2);
+        Check.due(x, "isReadInOrder", false, 3, 3);
+        Check.due(x, "isAllowed", false);
+        x = Made.full();
         // the fourth statement's second cell is the last step
         Check.due(x, "endOf", 7, 0, 0, 0);
         Check.due(x, "endOf", 7, 3, 0, 0);
@@ -91,6 +102,52 @@ public final class EdgeFullTests {
             x.setLasting(statement, true);
         }
         return x;
+    }
+
+    /** The last of four statements lasts on 2 rows of 3 points, and none of the others does. */
+    private static CellWindows lastOfFour() {
+        CellWindows x = Made.field(2, 3, 1, 1, 1, 1);
+        x.setLasting(3, true);
+        return x;
+    }
+
+    private static void askedOfTheLast() {
+        CellWindows x = lastOfFour();
+        String[] calls = {"mostLiveOf", "conflictPairs", "leastRest", "leastRestByDifferences", "leastRowRest",
+            "leastColumnRest", "leastSlantModulus", "leastSlant"};
+        int[] ofTheFirst = {0, 0, 1, 1, 1, 1, 1, 0};
+        int[] ofTheLast = {5, 15, 6, 6, 2, 3, 6, 2};
+        for (int i = 0; i < calls.length; i++) {
+            Check.due(x, calls[i], ofTheFirst[i], 0);
+            Check.due(x, calls[i], ofTheFirst[i], 2);
+            Check.due(x, calls[i], ofTheLast[i], 3);
+        }
+        Check.due(x, "setLasting", false, 2, false);
+        Check.due(x, "setLasting", true, 3, true);
+        Check.due(x, "contract", 1 + 1 + 1 + 6);
+    }
+
+    private static void keptForTheLast() {
+        CellWindows x = lastOfFour();
+        Check.due(x, "keepRest", 5, 3, 5);
+        Check.due(x, "windowSize", 6, 0);
+        Check.due(x, "windowSize", 5, 3);
+        Check.due(x, "isRight", true, 0);
+        Check.due(x, "isRight", false, 3);
+        Check.due(x, "keepWhole", 6, 3);
+        Check.due(x, "isRight", true, 3);
+        Check.due(x, "keepTwoRests", 2, 3, 2, 1);
+        Check.due(x, "windowSize", 6, 2);
+        Check.due(x, "isRight", false, 3);
+        Check.due(x, "keepSlant", 7, 3, 3, 7);
+        Check.due(x, "room", 25);
+        Check.due(x, "placeOf", 0, 3, 1, 2);
+        Check.due(x, "placeOf", 5, 2, 1, 2);
+        Check.due(x, "keepWhole", 6, 3);
+        Check.due(x, "room", 24);
+        x.keepRest(0, 1);
+        Check.due(x, "keepWhole", 6, 3);
+        Check.due(x, "windowSize", 1, 0);
     }
 
     private static void largestField() {
@@ -168,8 +225,10 @@ public final class EdgeFullTests {
         Check.sentence("3", "IllegalStateException if the statement has 4 reads", EdgeFullTests::promise3FourReads);
         Check.sentence("4", "Drops all reads of a statement", EdgeFullTests::promise4RoomAgain);
         Check.sentence("4", "Returns how many it had", EdgeFullTests::promise4HowMany);
-        Check.sentence("3, 11, 16, 38", "the number of the read, from 0 for each statement",
+        Check.sentence("3, 9, 11, 16, 38", "the number of the read, from 0 for each statement",
             EdgeFullTests::promise11LastRead);
+        Check.sentence("5, 19, 21, 26, 31 to 36", "There are up to 4, numbered from 0", EdgeFullTests::askedOfTheLast);
+        Check.sentence("22 to 30", "There are up to 4, numbered from 0", EdgeFullTests::keptForTheLast);
         Check.sentence("6, 12 to 21, 26, 40, 43", "rows: 1 to 8, columns: 1 to 8, both 8", EdgeFullTests::largestField);
         Check.sentence("31 to 37", "rows: 1 to 8, columns: 1 to 8, both 8", EdgeFullTests::largestLeastWindows);
         Check.sentence("7, 8, 13", "the greatest weights and offsets", EdgeFullTests::latestTimes);

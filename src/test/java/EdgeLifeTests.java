@@ -45,6 +45,10 @@ public final class EdgeLifeTests {
         CellWindows x = Made.field(1, 1, 1, 1);
         x.addRead(1, 0, 1, 0, 0);
         Check.due(x, "mostLive", 1);
+        // 3 of the first statement and 2 of the second one, but at different steps
+        CellWindows both = readThreeLater();
+        both.setLasting(1, true);
+        Check.due(both, "mostLive", 3);
     }
 
     private static void promise19MostOfOne() {
@@ -79,6 +83,22 @@ public final class EdgeLifeTests {
         Check.due(x, "endOf", 5, 0, 0, 0);
         Check.due(x, "endOf", 7, 0, 0, 3);
         Check.due(x, "endOf", 3, 1, 0, 3);
+        // a lower statement that reads later than a higher one
+        CellWindows crossed = Made.field(1, 2, 1, 1, 1);
+        crossed.addRead(1, 0, 1, 0, 0);
+        crossed.addRead(2, 0, 1, 0, 0);
+        Check.due(crossed, "endOf", 4, 0, 0, 0);
+        crossed.setOffset(1, 1);
+        Check.due(crossed, "endOf", 4, 0, 0, 0);
+        Check.due(crossed, "endOf", 5, 0, 0, 1);
+        // a lower row on the left that reads later than an upper one on the right
+        CellWindows bent = Made.field(2, 2, 1);
+        bent.addRead(0, 0, 1, 0, 1);
+        bent.addRead(0, 0, 1, 1, 0);
+        bent.setSchedule(1, 3);
+        Check.due(bent, "endOf", 2, 0, 0, 0);
+        bent.setSchedule(3, 1);
+        Check.due(bent, "endOf", 2, 0, 0, 0);
     }
 
     private static void promise16LastingEnds() {
@@ -175,6 +195,10 @@ public final class EdgeLifeTests {
         Check.due(x, "isRight", true, 0);
         x.setSchedule(0, 0);
         Check.due(x, "isRight", false, 0);
+        // fewer places than there are live cells of another statement
+        x.setLasting(0, true);
+        x.keepRest(1, 1);
+        Check.due(x, "isRight", true, 1);
     }
 
     /** Whether a read of that many rows and columns back, which comes too early, matters on that field. */

@@ -105,6 +105,18 @@ public final class EdgeNoneTests {
         Check.due(alike, "firstWrongStep", -1);
     }
 
+    /** What earlier calls put into the places is not there any more: nothing is read on either side. */
+    private static void promise40AfterOtherCalls() {
+        CellWindows x = Made.reading(1, 4, 0, -1);
+        x.valueOf(0, 0, 3);
+        Check.due(x, "firstWrongStep", -1);
+        x.contractedValueOf(0, 0, 3);
+        Check.due(x, "firstWrongStep", -1);
+        Check.due(x, "firstWrongStep", -1);
+        Check.due(x, "valueOf", 1, 0, 0, 0);
+        Check.due(x, "contractedValueOf", 1, 0, 0, 0);
+    }
+
     private static void promise40FirstOne() {
         CellWindows x = Made.reading(1, 4, 0, 2);
         x.keepRest(0, 1);
@@ -140,6 +152,7 @@ public final class EdgeNoneTests {
             EdgeNoneTests::promise37ThreeKindsOfPairs);
         Check.sentence("37", "leastRest() for a statement and itself", EdgeNoneTests::promise37WithItself);
         Check.sentence("40", "-1 if it answers alike", EdgeNoneTests::promise40AnswersAlike);
+        Check.sentence("40", "0 if nothing was ever put there", EdgeNoneTests::promise40AfterOtherCalls);
         Check.sentence("40", "the first step at which the contracted program writes another value",
             EdgeNoneTests::promise40FirstOne);
         Check.sentence("40", "the first step", EdgeNoneTests::promise40NotTheLast);

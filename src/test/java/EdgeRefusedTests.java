@@ -9,18 +9,29 @@ public final class EdgeRefusedTests {
     /** Stands for the statement, row, column, read or step that is not there. */
     private static final String TRIED = "tried";
 
+    private static final String NO_STATEMENT = "if there is no such statement";
+    private static final String NO_SOURCE = "or no such source";
+    private static final String NO_ONE = "if there is no statement one";
+    private static final String NO_OTHER = "or no statement other";
+
+    /** Promise, words and call. */
     private static final Object[][] ASKING_FOR_STATEMENT = {
-        {"3", "addRead", TRIED, 0, 1, 0, 0}, {"3", "addRead", 0, TRIED, 1, 0, 0}, {"4", "dropReads", TRIED},
-        {"5", "setLasting", TRIED, true}, {"5", "setLasting", TRIED, false}, {"8", "setOffset", TRIED, 9},
-        {"11", "isReadInOrder", TRIED, 0}, {"13", "stepOf", TRIED, 0, 0}, {"16", "endOf", TRIED, 0, 0},
-        {"19", "mostLiveOf", TRIED}, {"20", "conflictsOf", TRIED, 0, 0, 0}, {"20", "conflictsOf", 0, 0, 0, TRIED},
-        {"21", "conflictPairs", TRIED}, {"22", "keepWhole", TRIED}, {"23", "keepRest", TRIED, 9},
-        {"24", "keepTwoRests", TRIED, 9, 9}, {"25", "keepSlant", TRIED, 9, 9}, {"27", "windowSize", TRIED},
-        {"29", "placeOf", TRIED, 0, 0}, {"30", "isRight", TRIED}, {"31", "leastRest", TRIED},
-        {"32", "leastRestByDifferences", TRIED}, {"33", "leastRowRest", TRIED}, {"34", "leastColumnRest", TRIED},
-        {"35", "leastSlantModulus", TRIED}, {"36", "leastSlant", TRIED}, {"37", "leastJointRest", TRIED, 0},
-        {"37", "leastJointRest", 0, TRIED}, {"37", "leastJointRest", TRIED, TRIED}, {"38", "valueOf", TRIED, 0, 0},
-        {"39", "contractedValueOf", TRIED, 0, 0},
+        {"3", NO_STATEMENT, "addRead", TRIED, 0, 1, 0, 0}, {"3", NO_SOURCE, "addRead", 0, TRIED, 1, 0, 0},
+        {"4", NO_STATEMENT, "dropReads", TRIED}, {"5", NO_STATEMENT, "setLasting", TRIED, true},
+        {"5", NO_STATEMENT, "setLasting", TRIED, false}, {"8", NO_STATEMENT, "setOffset", TRIED, 9},
+        {"11", NO_STATEMENT, "isReadInOrder", TRIED, 0}, {"13", NO_STATEMENT, "stepOf", TRIED, 0, 0},
+        {"16", NO_STATEMENT, "endOf", TRIED, 0, 0}, {"19", NO_STATEMENT, "mostLiveOf", TRIED},
+        {"20", NO_STATEMENT, "conflictsOf", TRIED, 0, 0, 0}, {"20", NO_OTHER, "conflictsOf", 0, 0, 0, TRIED},
+        {"21", NO_STATEMENT, "conflictPairs", TRIED}, {"22", NO_STATEMENT, "keepWhole", TRIED},
+        {"23", NO_STATEMENT, "keepRest", TRIED, 9}, {"24", NO_STATEMENT, "keepTwoRests", TRIED, 9, 9},
+        {"25", NO_STATEMENT, "keepSlant", TRIED, 9, 9}, {"27", NO_STATEMENT, "windowSize", TRIED},
+        {"29", NO_STATEMENT, "placeOf", TRIED, 0, 0}, {"30", NO_STATEMENT, "isRight", TRIED},
+        {"31", NO_STATEMENT, "leastRest", TRIED}, {"32", NO_STATEMENT, "leastRestByDifferences", TRIED},
+        {"33", NO_STATEMENT, "leastRowRest", TRIED}, {"34", NO_STATEMENT, "leastColumnRest", TRIED},
+        {"35", NO_STATEMENT, "leastSlantModulus", TRIED}, {"36", NO_STATEMENT, "leastSlant", TRIED},
+        {"37", NO_ONE, "leastJointRest", TRIED, 0}, {"37", NO_OTHER, "leastJointRest", 0, TRIED},
+        {"37", NO_ONE, "leastJointRest", TRIED, TRIED}, {"38", NO_STATEMENT, "valueOf", TRIED, 0, 0},
+        {"39", NO_STATEMENT, "contractedValueOf", TRIED, 0, 0},
     };
 
     private static final Object[][] ASKING_FOR_POINT = {
@@ -84,7 +95,7 @@ public final class EdgeRefusedTests {
         }
     }
 
-    private static void noSuchStatement(Object[] row) {
+    private static void noSuchStatement(Object... row) {
         for (int statement : new int[] {-1, 2, 3, 4, Integer.MIN_VALUE, Integer.MAX_VALUE}) {
             Check.refused(Made::telling, NO_INDEX, call(row, statement));
         }
@@ -243,7 +254,8 @@ public final class EdgeRefusedTests {
         String nothing = "a call that throws has changed nothing";
         Check.sentence("2 to 8, 22 to 26", nothing + " (changes show)", EdgeRefusedTests::everyChangeShows);
         for (Object[] row : ASKING_FOR_STATEMENT) {
-            Check.sentence((String) row[0], "if there is no such statement", () -> noSuchStatement(row));
+            Object[] call = java.util.Arrays.copyOfRange(row, 1, row.length);
+            Check.sentence((String) row[0], (String) row[1], () -> noSuchStatement(call));
         }
         for (Object[] row : ASKING_FOR_POINT) {
             Check.sentence((String) row[0], "no such point", () -> noSuchPoint(row));

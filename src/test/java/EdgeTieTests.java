@@ -81,6 +81,47 @@ public final class EdgeTieTests {
         inOrder(false, 1, 0, 0, 0, 1);
     }
 
+    /** The cell above is written the offset later and the row weight earlier; at equal times it comes too late. */
+    private static CellWindows above(int rowWeight, int offset) {
+        CellWindows x = Made.field(2, 2, 1, 1);
+        x.addRead(0, 1, 1, 1, 0);
+        x.setOffset(1, offset);
+        x.setSchedule(rowWeight, 0);
+        return x;
+    }
+
+    private static void promise7AllowedThen() {
+        CellWindows x = above(5, 5);
+        Check.due(x, "setSchedule", true, 6, 0);
+        Check.due(x, "isAllowed", true);
+        Check.due(x, "setSchedule", false, 5, 0);
+        Check.due(x, "isAllowed", false);
+        Check.due(x, "setSchedule", false, 0, 9);
+        Check.due(x, "setSchedule", true, 9, 9);
+    }
+
+    private static void promise8AllowedThen() {
+        CellWindows x = above(5, 5);
+        Check.due(x, "setOffset", true, 1, 4);
+        Check.due(x, "isAllowed", true);
+        Check.due(x, "setOffset", false, 1, 5);
+        Check.due(x, "isAllowed", false);
+        Check.due(x, "setOffset", true, 0, 1);
+        Check.due(x, "setOffset", false, 1, 6);
+        Check.due(x, "setOffset", true, 1, 0);
+    }
+
+    private static void promise10OtherWeights() {
+        CellWindows x = above(5, 5);
+        Check.due(x, "isAllowedWith", true, 6, 0);
+        Check.due(x, "isAllowedWith", true, 6, 9);
+        Check.due(x, "isAllowedWith", false, 5, 9);
+        // the weights stay as they are: both at time 5
+        Check.due(x, "isAllowed", false);
+        Check.due(x, "stepOf", 2, 0, 1, 0);
+        Check.due(x, "stepOf", 4, 1, 0, 0);
+    }
+
     private static void contractsTo(CellWindows x, int places) {
         Check.due(x, "contract", places);
         Check.due(x, "windowSize", places, 0);
@@ -108,6 +149,14 @@ public final class EdgeTieTests {
         contractsTo(one, 1);
         one.setField(1, 2);
         Check.due(one, "windowSize", 2, 0);
+        // what was kept before does not count, be it smaller or larger
+        CellWindows wrong = Made.lasting(2, 2);
+        wrong.keepRest(0, 1);
+        contractsTo(wrong, 4);
+        wrong.keepTwoRests(0, 1, 3);
+        contractsTo(wrong, 4);
+        wrong.setField(2, 3);
+        Check.due(wrong, "windowSize", 6, 0);
     }
 
     /** Two places in each of the three kinds. On the larger fields a two-rest or a slant window would answer 0 or 1. */
@@ -189,6 +238,13 @@ public final class EdgeTieTests {
         Check.due(x, "leastRestByDifferences", 2, 0);
         // differences 1 to 4
         Check.due(columnByColumn(), "leastRestByDifferences", 5, 0);
+        // the difference 2 alone, which 1 divides; and 1 and 4, which 2 divides
+        CellWindows two = Made.reading(3, 2, 2, 0);
+        two.setSchedule(0, 1);
+        Check.due(two, "leastRestByDifferences", 3, 0);
+        CellWindows four = Made.reading(2, 4, 1, 1);
+        four.setSchedule(0, 1);
+        Check.due(four, "leastRestByDifferences", 3, 0);
     }
 
     /** Cells in conflict lie one column apart, one row, or two rows and two columns: 2 by 3 is right, and 3 by 2. */
@@ -209,6 +265,17 @@ public final class EdgeTieTests {
         Check.due(Made.reading(3, 3, 2, -1), "leastColumnRest", 3, 0);
     }
 
+    /** All cells in conflict: no modulus can be less, and none need be more. */
+    private static void promise33MostModuli() {
+        for (int rows = 1; rows <= 8; rows++) {
+            for (int columns = 1; columns <= 8; columns++) {
+                CellWindows x = Made.lasting(rows, columns);
+                Check.due(x, "leastRowRest", rows, 0);
+                Check.due(x, "leastColumnRest", columns, 0);
+            }
+        }
+    }
+
     /** Fewest places come before the least row modulus: 3 by 1 is less than 2 by 2. */
     private static CellWindows threeByOne() {
         CellWindows x = Made.reading(3, 2, 0, 1);
@@ -219,6 +286,13 @@ public final class EdgeTieTests {
     private static void promise33FewestPlaces() {
         Check.due(threeByOne(), "leastRowRest", 3, 0);
         Check.due(threeByOne(), "leastColumnRest", 1, 0);
+        // along the diagonals 1 by 3 is right, but 2 by 1 has fewer places
+        CellWindows x = Made.reading(2, 3, 0, 1);
+        x.setSchedule(1, 1);
+        x.keepTwoRests(0, 1, 3);
+        Check.due(x, "isRight", true, 0);
+        Check.due(x, "leastRowRest", 2, 0);
+        Check.due(x, "leastColumnRest", 1, 0);
     }
 
     /** Slants 1, 3, 5, 7 and 9 modulo 2 are right. */
@@ -247,6 +321,23 @@ public final class EdgeTieTests {
         // slant 0 modulo 3, the rows; other slants would do modulo 4
         Check.due(threeByOne(), "leastSlantModulus", 3, 0);
         Check.due(threeByOne(), "leastSlant", 0, 0);
+        // slant 2 modulo 5 is right, but slant 3 modulo 4 has fewer places
+        CellWindows x = Made.reading(2, 3, 1, 0);
+        x.keepSlant(0, 2, 5);
+        Check.due(x, "isRight", true, 0);
+        Check.due(x, "leastSlantModulus", 4, 0);
+        Check.due(x, "leastSlant", 3, 0);
+    }
+
+    /** Cells live for two rows of five: the greatest slant, 9 modulo 11, is the only one with so few places. */
+    private static void promise35GreatestSlant() {
+        CellWindows x = Made.reading(3, 5, 2, 0);
+        for (int slant = 0; slant <= 9; slant++) {
+            x.keepSlant(0, slant, 11);
+            Check.due(x, "isRight", slant == 9, 0);
+        }
+        Check.due(x, "leastSlantModulus", 11, 0);
+        Check.due(x, "leastSlant", 9, 0);
     }
 
     /** The rooms by row weight: 5 4 4 4, 3 3 2 2, 3 2 3 2, 3 2 2 3. */
@@ -289,6 +380,13 @@ public final class EdgeTieTests {
     private static void promises41To43AllEqual() {
         best(Made.field(2, 2, 1, 1), 0, 0, 2);
         best(Made.lasting(2, 2), 0, 0, 4);
+        // the schedule that was set stays
+        CellWindows x = Made.field(2, 2, 1, 1);
+        x.setSchedule(3, 2);
+        best(x, 0, 0, 2);
+        Check.due(x, "stepOf", 4, 0, 1, 0);
+        x.setOffset(1, 3);
+        Check.due(x, "stepOf", 3, 1, 0, 0);
     }
 
     /** The second statement begins 2 or 3 later: in two places from row weight 3 on, or from 4 on. */
@@ -326,6 +424,9 @@ public final class EdgeTieTests {
         Check.sentence("13, 14, 15", "then the left column", EdgeTieTests::leftColumn);
         Check.sentence("7 to 11", "at a later step than the writing of the cell it reads",
             EdgeTieTests::laterAtEqualTimes);
+        Check.sentence("7", "whether the schedule is allowed then", EdgeTieTests::promise7AllowedThen);
+        Check.sentence("8", "whether the schedule is allowed then", EdgeTieTests::promise8AllowedThen);
+        Check.sentence("10", "with other weights, and the offsets as they are", EdgeTieTests::promise10OtherWeights);
         String kinds = "of equally small ones the kind that is named first";
         Check.sentence("26", kinds + " (whole)", EdgeTieTests::promise26WholeFirst);
         Check.sentence("26", kinds + " (rest)", EdgeTieTests::promise26RestBeforeBoth);
@@ -335,11 +436,13 @@ public final class EdgeTieTests {
         Check.sentence("26", "the smallest", EdgeTieTests::promise26Smallest);
         Check.sentence("31", "the least modulus", EdgeTieTests::promise31LeastOne);
         Check.sentence("32", "the least one that divides no difference", EdgeTieTests::promise32SameModulus);
+        Check.sentence("33, 34", "at most the rows and the columns of the field", EdgeTieTests::promise33MostModuli);
         Check.sentence("33", "of several the one with the least row modulus", EdgeTieTests::promise33LeastRowModulus);
         Check.sentence("34", "the column modulus of that window", EdgeTieTests::promise34ItsColumnModulus);
         Check.sentence("33, 34", "the one with the fewest places", EdgeTieTests::promise33FewestPlaces);
         Check.sentence("36", "of several the one with the least slant", EdgeTieTests::promise36LeastSlant);
         Check.sentence("35, 36", "the one with the fewest places", EdgeTieTests::promise35FewestPlaces);
+        Check.sentence("35, 36", "slants 0 to 9", EdgeTieTests::promise35GreatestSlant);
         Check.sentence("41", "of several the one with the least row weight", EdgeTieTests::promise41LeastRowWeight);
         Check.sentence("42", "then with the least column weight", EdgeTieTests::promise42LeastColumnWeight);
         Check.sentence("43", "with that schedule", EdgeTieTests::promise43Room);

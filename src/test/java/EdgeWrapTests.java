@@ -36,13 +36,41 @@ public final class EdgeWrapTests {
         Check.due(twice(48), call, 3, 3, 0, 0);
     }
 
+    /** Each cell is 99 and 36 times the one on its left: without a rest on the way the sums would leave the ints. */
+    private static void longChain(String call) {
+        CellWindows x = Made.field(8, 8, 99);
+        for (int read = 0; read < 4; read++) {
+            x.addRead(0, 0, 9, 0, 1);
+        }
+        long value = 93;
+        for (int column = 0; column < 8; column++) {
+            value = (99 + 36 * value) % 9973;
+            Check.due(x, call, value, 0, 0, column);
+        }
+        // all cells in one line
+        x.dropReads(0);
+        x.setField(1, 8);
+        for (int read = 0; read < 4; read++) {
+            x.addRead(0, 0, 9, 0, read % 2 + 1);
+        }
+        long[] values = new long[10];
+        values[0] = 86;
+        values[1] = 93;
+        for (int column = 0; column < 8; column++) {
+            values[column + 2] = (99 + 18 * values[column + 1] + 18 * values[column]) % 9973;
+            Check.due(x, call, values[column + 2], 0, 0, column);
+        }
+    }
+
     private static void promise38SumModulo() {
         sumModulo9973("valueOf");
+        longChain("valueOf");
         Check.due(once(73), "firstWrongStep", -1);
     }
 
     private static void promise39SumModulo() {
         sumModulo9973("contractedValueOf");
+        longChain("contractedValueOf");
     }
 
     /** Compares the border value that a statement's cell takes from a source. */
@@ -94,7 +122,7 @@ public final class EdgeWrapTests {
         borderNeverNegative("contractedValueOf");
     }
 
-    /** The point beside the last column is outside, not the next row's first one; a smaller field has a nearer border. */
+    /** The point beside the last column is outside, not the next row's first one; a smaller field ends earlier. */
     private static void outsideTheField() {
         CellWindows x = Made.field(2, 2, 50, 0);
         x.addRead(1, 0, 1, 0, -1);
@@ -180,6 +208,30 @@ public final class EdgeWrapTests {
         x.setField(2, 4);
         Check.due(x, "windowSize", 3, 0);
         places(x, 4, 0, 2, 1, 0, 1, 0, 2, 1);
+        // a window that is larger than the field stays as large as it is
+        x.keepRest(0, 99);
+        x.setField(1, 1);
+        Check.due(x, "windowSize", 99, 0);
+        x.setField(2, 2);
+        Check.due(x, "windowSize", 99, 0);
+        Check.due(x, "room", 99);
+    }
+
+    /** Nothing but the points changes: addends, reads, offsets, the weights, and what lasts. */
+    private static void promise6StatementsAndReadsStay() {
+        CellWindows x = Made.telling();
+        String before = Check.allAnswers(x);
+        Check.due(x, "setField", 1, 1, 1);
+        Check.due(x, "steps", 2);
+        Check.due(x, "setField", 64, 8, 8);
+        Check.due(x, "steps", 128);
+        Check.due(x, "setField", 6, 2, 3);
+        Check.same("all answers with the field as before", Check.allAnswers(x), before);
+        x.setField(3, 2);
+        Check.due(x, "isReadInOrder", true, 1, 1);
+        Check.due(x, "addRead", 2, 1, 0, 1, 0, 0);
+        Check.due(x, "setLasting", true, 0, true);
+        Check.due(x, "addStatement", 2, 0);
     }
 
     private static void promise6WholeGrows() {
@@ -209,6 +261,7 @@ public final class EdgeWrapTests {
         // in two places the fourth cell finds the third, 80 87 94 95, and so on to 95 + 4
         Check.due(x, "contractedValueOf", 95, 0, 0, 3);
         Check.due(x, "contractedValueOf", 99, 0, 0, 7);
+        Check.due(x, "valueOf", 89, 0, 0, 7);
         Check.due(x, "firstWrongStep", 3);
         x.keepRest(0, 1);
         Check.due(x, "contractedValueOf", 99, 0, 0, 7);
@@ -226,9 +279,10 @@ public final class EdgeWrapTests {
         Check.sentence("24, 29", "(i modulo the first) times the second, plus j modulo the second",
             EdgeWrapTests::promise24TwoRests);
         Check.sentence("25, 29", "(i plus j times the slant) modulo the modulus", EdgeWrapTests::promise25Slant);
-        Check.sentence("6, 27, 29", "statements, reads and windows stay", EdgeWrapTests::promise6WindowsStay);
+        Check.sentence("6", "statements, reads and windows stay", EdgeWrapTests::promise6StatementsAndReadsStay);
+        Check.sentence("6, 27, 29", "statements, reads and windows stay (windows)", EdgeWrapTests::promise6WindowsStay);
         Check.sentence("6, 22, 27", "a whole window is as large as the field then", EdgeWrapTests::promise6WholeGrows);
-        Check.sentence("39, 40", "overwrites what lies at the place of its own", EdgeWrapTests::promise39Turns);
+        Check.sentence("38, 39, 40", "overwrites what lies at the place of its own", EdgeWrapTests::promise39Turns);
         Check.finish();
     }
 }

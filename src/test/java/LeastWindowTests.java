@@ -95,7 +95,8 @@ public final class LeastWindowTests {
 
     private static void wrongStatements() {
         for (String call : ALL) {
-            Check.refused(() -> reading(2, 2, 1, 1), "IndexOutOfBoundsException", Check.call(call, -1), Check.call(call, 1));
+            Check.refused(() -> reading(2, 2, 1, 1), "IndexOutOfBoundsException",
+                Check.call(call, -1), Check.call(call, 1));
         }
     }
 
