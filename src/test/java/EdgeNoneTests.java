@@ -50,6 +50,14 @@ public final class EdgeNoneTests {
         x.setOffset(0, 0);
         x.setOffset(1, 30);
         joint(x, -1);
+        // the second statement's cells live until the first one's cell two columns on the left, so none meets the one
+        // at its own point, but the last one meets the first one: 63 apart, and so for each call
+        CellWindows far = Made.field(8, 8, 1, 1);
+        far.addRead(0, 1, 1, 0, -2);
+        far.setOffset(0, 30);
+        far.setOffset(1, 16);
+        joint(far, 64);
+        joint(far, 64);
     }
 
     private static void promise37ThreeKindsOfPairs() {
