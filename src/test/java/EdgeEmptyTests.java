@@ -124,6 +124,34 @@ public final class EdgeEmptyTests {
         Check.due(lower, "valueOf", 5 + 9 * 6, 0, 0, 0);
     }
 
+    /** Each cell reads the one on its right, which is written later: nothing lives, and one place does for all. */
+    private static final Object[][] NOT_ALLOWED = {
+        {"2", 1, "addStatement", 1}, {"3", 1, "addRead", 0, 0, 1, 0, -1}, {"4", 1, "dropReads", 0},
+        {"5", false, "setLasting", 0, true}, {"6", 6, "setField", 2, 3}, {"7", false, "setSchedule", 1, 1},
+        {"8", false, "setOffset", 0, 30}, {"9", false, "isAllowed"}, {"10", false, "isAllowedWith", 9, 0},
+        {"11", false, "isReadInOrder", 0, 0}, {"12", 3, "steps"}, {"13", 2, "stepOf", 0, 0, 2},
+        {"14", 0, "statementAt", 2}, {"15", 2, "pointAt", 2}, {"16", 1, "endOf", 0, 0, 1}, {"17", 0, "liveAt", 2},
+        {"18", 0, "mostLive"}, {"19", 0, "mostLiveOf", 0}, {"20", 0, "conflictsOf", 0, 0, 1, 0},
+        {"21", 0, "conflictPairs", 0}, {"22", 3, "keepWhole", 0}, {"23", 2, "keepRest", 0, 2},
+        {"24", 6, "keepTwoRests", 0, 2, 3}, {"25", 2, "keepSlant", 0, 1, 2}, {"26", 1, "contract"},
+        {"27", 3, "windowSize", 0}, {"28", 3, "room"}, {"29", 2, "placeOf", 0, 0, 2}, {"30", true, "isRight", 0},
+        {"31", 1, "leastRest", 0}, {"32", 1, "leastRestByDifferences", 0}, {"33", 1, "leastRowRest", 0},
+        {"34", 1, "leastColumnRest", 0}, {"35", 1, "leastSlantModulus", 0}, {"36", 0, "leastSlant", 0},
+        {"37", 1, "leastJointRest", 0, 0}, {"38", 1, "valueOf", 0, 0, 1}, {"39", 22, "contractedValueOf", 0, 0, 2},
+        {"40", -1, "firstWrongStep"}, {"41", "throws.IllegalStateException", "bestRowWeight"},
+        {"42", "throws.IllegalStateException", "bestColumnWeight"}, {"43", "throws.IllegalStateException", "bestRoom"},
+    };
+
+    /** After the window of one place is chosen, which is right, the second cell finds the first one in it. */
+    private static void rightButNotAllowed() {
+        CellWindows x = Made.reading(1, 3, 0, -1);
+        Check.due(x, "contract", 1);
+        Check.due(x, "isRight", true, 0);
+        Check.due(x, "firstWrongStep", 1);
+        Check.due(x, "valueOf", 1, 0, 0, 1);
+        Check.due(x, "contractedValueOf", 2, 0, 0, 1);
+    }
+
     private static void promise38ReadsThenWrites() {
         CellWindows x = Made.field(1, 2, 5);
         x.addRead(0, 0, 9, 0, 0);
@@ -223,6 +251,11 @@ public final class EdgeEmptyTests {
         Check.sentence("2, 22", "A new statement has the whole window",
             EdgeEmptyTests::promise22NewStatementKeepsWhole);
         Check.sentence("38", "reading a cell that is not yet written gives 0", EdgeEmptyTests::promise38NotYetWritten);
+        String notAllowed = "all calls work for schedules that are not allowed, too";
+        for (Object[] row : NOT_ALLOWED) {
+            Check.sentence((String) row[0], notAllowed, () -> asked(Made.reading(1, 3, 0, -1), row));
+        }
+        Check.sentence("26, 30, 38 to 40", notAllowed, EdgeEmptyTests::rightButNotAllowed);
         Check.sentence("38, 39", "Each step reads what it needs, then writes its cell",
             EdgeEmptyTests::promise38ReadsThenWrites);
         Check.sentence("39", "0 if nothing was ever put there", EdgeEmptyTests::promise39NothingPutThere);

@@ -145,6 +145,24 @@ public final class EdgeWrapTests {
         }
     }
 
+    /** Row by row, whatever the shape of the field; steps and places are counted from 0. */
+    private static void placeInLine() {
+        for (int[] shape : new int[][] {{1, 1}, {1, 8}, {8, 1}, {2, 5}, {5, 2}, {8, 8}}) {
+            CellWindows x = Made.field(shape[0], shape[1], 1);
+            x.setSchedule(0, 0);
+            int last = shape[0] * shape[1] - 1;
+            Check.due(x, "placeOf", 0, 0, 0, 0);
+            Check.due(x, "pointAt", 0, 0);
+            Check.due(x, "placeOf", last, 0, shape[0] - 1, shape[1] - 1);
+            Check.due(x, "pointAt", last, last);
+            Check.due(x, "placeOf", shape[1] - 1, 0, 0, shape[1] - 1);
+            Check.due(x, "placeOf", (shape[0] - 1) * shape[1], 0, shape[0] - 1, 0);
+            // column by column the last row's first point comes after those above it
+            x.setSchedule(0, 1);
+            Check.due(x, "pointAt", (shape[0] - 1) * shape[1], shape[0] - 1);
+        }
+    }
+
     private static void promise23Rest() {
         CellWindows x = Made.field(3, 4, 1);
         Check.due(x, "keepRest", 1, 0, 1);
@@ -275,6 +293,8 @@ public final class EdgeWrapTests {
         Check.sentence("38", "never negative", EdgeWrapTests::promise38BorderNeverNegative);
         Check.sentence("39", "never negative", EdgeWrapTests::promise39BorderNeverNegative);
         Check.sentence("38", "Where this point lies outside the field", EdgeWrapTests::outsideTheField);
+        Check.sentence("15, 22, 29", "The place in line of a point is i times the number of columns, plus j",
+            EdgeWrapTests::placeInLine);
         Check.sentence("23, 29", "at its place in line modulo that modulus", EdgeWrapTests::promise23Rest);
         Check.sentence("24, 29", "(i modulo the first) times the second, plus j modulo the second",
             EdgeWrapTests::promise24TwoRests);
