@@ -1,11 +1,14 @@
 import java.io.IOException;
+import java.lang.reflect.Field;
+import java.lang.reflect.Method;
+import java.lang.reflect.Modifier;
 import java.nio.file.Files;
 import java.nio.file.Path;
 import java.util.List;
 import java.util.regex.Matcher;
 import java.util.regex.Pattern;
 
-/** The rules of LANGUAGE.md that can be seen in the text of the program; run where src stands. */
+/** The rules of LANGUAGE.md that can be seen in the text and the shape of the program; run where src stands. */
 public final class LanguageTests {
     private static final Path PROGRAM = Path.of("src/main/java/CellWindows.java");
 
@@ -19,6 +22,10 @@ public final class LanguageTests {
     private static final List<String> IMPORTS = List.of("import java.util.ArrayList;", "import java.util.Arrays;");
     private static final List<String> THROWN =
         List.of("IllegalStateException", "IllegalArgumentException", "IndexOutOfBoundsException");
+    private static final int MOST_CLASSES = 12;
+    private static final int MOST_FIELDS = 20;
+    private static final int MOST_PARAMETERS = 7;
+    private static final int MOST_LINES_OF_A_METHOD = 60;
 
     private static void forbiddenWords(List<String> lines) {
         for (int i = 0; i < lines.size(); i++) {
@@ -48,10 +55,64 @@ public final class LanguageTests {
         }
     }
 
+    /** Rules 3 and 11: signs up to 127, and short methods. */
+    private static void signsAndLengths(List<String> lines) {
+        for (int i = 0; i < lines.size(); i++) {
+            holds("line " + (i + 1) + " holds signs up to 127", lines.get(i).chars().allMatch(sign -> sign <= 127));
+        }
+        shortMethods(lines, "    ");
+        shortMethods(lines, "        ");
+    }
+
+    /** A method's last line stands as deep as its first one, and nothing between them does. */
+    private static void shortMethods(List<String> lines, String depth) {
+        int begin = 0;
+        for (int i = 0; i < lines.size(); i++) {
+            if (lines.get(i).matches(depth + "\\w.*")) {
+                begin = i;
+            }
+            if (lines.get(i).equals(depth + "}") && lines.get(begin).contains("(")) {
+                holds("line " + (i + 1) + " ends a short method", i - begin < MOST_LINES_OF_A_METHOD);
+            }
+        }
+    }
+
+    private static void classes() {
+        Class<?>[] inside = CellWindows.class.getDeclaredClasses();
+        holds("at most " + MOST_CLASSES + " classes", inside.length + 1 <= MOST_CLASSES);
+        membersOf(CellWindows.class);
+        for (Class<?> one : inside) {
+            int modifiers = one.getModifiers();
+            holds(one + " is static", Modifier.isStatic(modifiers));
+            holds(one + " does not show", !Modifier.isPublic(modifiers) && !Modifier.isProtected(modifiers));
+            membersOf(one);
+        }
+    }
+
+    private static void membersOf(Class<?> one) {
+        int fields = 0;
+        for (Field field : one.getDeclaredFields()) {
+            boolean constant = Modifier.isStatic(field.getModifiers());
+            holds(field + " is private", field.isEnumConstant() || Modifier.isPrivate(field.getModifiers()));
+            holds(field + " is final", !constant || Modifier.isFinal(field.getModifiers()));
+            fields += constant ? 0 : 1;
+        }
+        holds(one + " has at most " + MOST_FIELDS + " fields", fields <= MOST_FIELDS);
+        for (Method method : one.getDeclaredMethods()) {
+            holds(method + " has few parameters", method.getParameterCount() <= MOST_PARAMETERS);
+        }
+    }
+
+    private static void holds(String what, boolean held) {
+        Check.same(what, String.valueOf(held), "true");
+    }
+
     public static void main(String[] arguments) throws IOException {
         List<String> lines = Files.readAllLines(PROGRAM);
         forbiddenWords(lines);
         divisors(lines);
+        signsAndLengths(lines);
+        classes();
         Check.finish();
     }
 }
